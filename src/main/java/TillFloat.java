@@ -16,7 +16,8 @@ public final class TillFloat {
     private static final int TAPE_SIZE = 400;
     private static final int FULL = 100;
     private static final int SHELVES = 2;
-    private static final int ONWARD = -2;
+    /** What is answered where NONE is not: the refusals behind it, in their order. */
+    private static final int SECOND = -2;
     private static final int THIRD = -3;
     private static final int FOURTH = -4;
     private static final int UNSETTLED = -100;
@@ -25,7 +26,7 @@ public final class TillFloat {
     private final State now = new State();
     private final int[] tape = new int[TAPE_SIZE];
     private int taped;
-    private final Reader reader = new Reader();
+    private final Reader reader = new Reader(tape);
     private final State[] past = new State[MOST_ACTS];
     private int pastNext;
     private int acts;
@@ -37,6 +38,7 @@ public final class TillFloat {
     private final Reach reach = new Reach();
     private final long[] rows = new long[MOST_AMOUNT + 1];
     private final int[] tried = new int[MOST_KINDS];
+    private final int[] settled = new int[MOST_KINDS];
     private final int[] slack = new int[MOST_KINDS];
     private final int[] bagged = new int[MOST_KINDS];
     private final Scribe scribe = new Scribe();
@@ -80,7 +82,7 @@ public final class TillFloat {
     }
 
     public int tell() {
-        int fault = reader.read(tape, taped);
+        int fault = reader.read(taped);
         taped = 0;
         if (fault != 0) {
             return -2 - fault;
@@ -99,7 +101,7 @@ public final class TillFloat {
         int[] pieces = now.rowOf(row);
         int was = pieces[kind];
         if (was == n) {
-            return ONWARD;
+            return SECOND;
         }
         remember();
         pieces[kind] = n;
@@ -111,7 +113,7 @@ public final class TillFloat {
             return NONE;
         }
         if (now.purse[kind] < 1) {
-            return ONWARD;
+            return SECOND;
         }
         if (now.piecesOf(now.tray) >= MOST_GIVEN) {
             return THIRD;
@@ -128,7 +130,7 @@ public final class TillFloat {
         }
         int above = now.worthOf(now.tray) - price;
         if (above < 0) {
-            return ONWARD;
+            return SECOND;
         }
         for (int k = 0; k < now.kinds; k++) {
             tried[k] = now.till[k] + now.tray[k];
@@ -158,17 +160,17 @@ public final class TillFloat {
         }
         int pieces = findSettling(price);
         if (pieces < 0) {
-            return ONWARD;
+            return SECOND;
         }
         for (int k = 0; k < now.kinds; k++) {
-            if (now.till[k] + fewest.row[k] >= FULL || now.purse[k] - fewest.row[k] >= FULL) {
+            if (now.till[k] + settled[k] >= FULL || now.purse[k] - settled[k] >= FULL) {
                 return THIRD;
             }
         }
         remember();
         for (int k = 0; k < now.kinds; k++) {
-            now.till[k] += fewest.row[k];
-            now.purse[k] -= fewest.row[k];
+            now.till[k] += settled[k];
+            now.purse[k] -= settled[k];
         }
         return pieces;
     }
@@ -178,7 +180,7 @@ public final class TillFloat {
             return NONE;
         }
         remember();
-        life.liveFrom(now, day, now.till);
+        life.liveFrom(now.till, now, day);
         copyRow(life.till, now.till);
         return life.shorts;
     }
@@ -192,7 +194,7 @@ public final class TillFloat {
             above += Math.max(0, now.till[k] - now.limits[k]);
         }
         if (above == 0) {
-            return ONWARD;
+            return SECOND;
         }
         remember();
         for (int k = 0; k < now.kinds; k++) {
@@ -209,7 +211,7 @@ public final class TillFloat {
         }
         int then = now.till[kind] + bags * now.bagSizes[kind];
         if (then >= FULL) {
-            return ONWARD;
+            return SECOND;
         }
         remember();
         now.till[kind] = then;
@@ -221,7 +223,7 @@ public final class TillFloat {
             return NONE;
         }
         if (now.days >= MOST_DAYS || now.allSales() + n > MOST_SALES) {
-            return ONWARD;
+            return SECOND;
         }
         remember();
         now.addDay();
@@ -284,7 +286,7 @@ public final class TillFloat {
             return NONE;
         }
         if ((keptBits >> shelf & 1) == 0) {
-            return ONWARD;
+            return SECOND;
         }
         now.copyFrom(shelved[shelf]);
         acts = 0;
@@ -370,7 +372,7 @@ public final class TillFloat {
         if (k == NONE) {
             return scribe.written;
         }
-        return k < scribe.written ? scribe.found : ONWARD;
+        return k < scribe.written ? scribe.found : SECOND;
     }
 
     // ---- change ----
@@ -380,14 +382,14 @@ public final class TillFloat {
             return NONE;
         }
         int pieces = changer.take(now, now.till, amount);
-        return pieces < 0 ? ONWARD : pieces;
+        return pieces < 0 ? SECOND : pieces;
     }
 
     public int piece(int amount, int kind) {
         if (!isAmount(amount) || !hasKind(kind)) {
             return NONE;
         }
-        return changer.take(now, now.till, amount) < 0 ? ONWARD : changer.row[kind];
+        return changer.take(now, now.till, amount) < 0 ? SECOND : changer.row[kind];
     }
 
     public int pays(int price, int kind) {
@@ -396,7 +398,7 @@ public final class TillFloat {
         }
         int pieces = changer.take(now, now.purse, price);
         if (pieces < 0) {
-            return ONWARD;
+            return SECOND;
         }
         return kind == NONE ? pieces : changer.row[kind];
     }
@@ -405,9 +407,10 @@ public final class TillFloat {
         if (!hasKind(kind) || n < 1 || n >= FULL || n * now.values[kind] > MOST_AMOUNT) {
             return NONE;
         }
-        int pieces = changer.takeByTable(now, now.till, kind, n * now.values[kind]);
+        fewest.layChange(now, now.till, kind, n * now.values[kind]);
+        int pieces = fewest.read(n * now.values[kind], tried);
         if (pieces < 0) {
-            return ONWARD;
+            return SECOND;
         }
         return now.purse[kind] < n ? THIRD : pieces;
     }
@@ -424,7 +427,7 @@ public final class TillFloat {
             }
             pieces = changer.take(now, tried, amount);
         }
-        return pieces < 0 ? ONWARD : pieces;
+        return pieces < 0 ? SECOND : pieces;
     }
 
     public long ways(int amount) {
@@ -471,7 +474,7 @@ public final class TillFloat {
         }
         reach.spread(now, now.till);
         int fewestGaps = reach.missing();
-        int which = ONWARD;
+        int which = SECOND;
         copyRow(now.till, tried);
         for (int k = 0; k < now.kinds; k++) {
             if (tried[k] >= FULL - 1) {
@@ -492,11 +495,11 @@ public final class TillFloat {
         if (what < 0 || what > 1) {
             return NONE;
         }
-        changer.layAll(now, now.till);
+        fewest.layChange(now, now.till, now.kinds, MOST_AMOUNT);
         int most = 0;
         int amount = 0;
         for (int a = 0; a <= MOST_AMOUNT; a++) {
-            int pieces = fewest.piecesFor(now.kinds, a);
+            int pieces = fewest.piecesFor(a);
             if (pieces > most) {
                 most = pieces;
                 amount = a;
@@ -506,11 +509,11 @@ public final class TillFloat {
     }
 
     public long share() {
-        changer.layAll(now, now.till);
+        fewest.layChange(now, now.till, now.kinds, MOST_AMOUNT);
         long pieces = 0;
         long amounts = 0;
         for (int a = 0; a <= MOST_AMOUNT; a++) {
-            int some = fewest.piecesFor(now.kinds, a);
+            int some = fewest.piecesFor(a);
             if (some >= 0) {
                 pieces += some;
                 amounts++;
@@ -523,11 +526,11 @@ public final class TillFloat {
         if (what < 0 || what > 1) {
             return NONE;
         }
-        changer.layAll(now, now.till);
-        int least = ONWARD;
+        fewest.layChange(now, now.till, now.kinds, MOST_AMOUNT);
+        int least = SECOND;
         int number = 0;
         for (int a = 0; a <= MOST_AMOUNT; a++) {
-            int pieces = fewest.piecesFor(now.kinds, a);
+            int pieces = fewest.piecesFor(a);
             if (pieces >= 0 && pieces != greedyPieces(a)) {
                 least = number == 0 ? a : least;
                 number++;
@@ -561,12 +564,12 @@ public final class TillFloat {
         if (pieces < 0) {
             return UNSETTLED;
         }
-        return kind == NONE ? pieces : fewest.row[kind];
+        return kind == NONE ? pieces : settled[kind];
     }
 
     private int findSettling(int price) {
-        fewest.lay(now.values, now.kinds, now.purse, now.till, -MOST_SETTLED, MOST_SETTLED);
-        return fewest.read(now.values, now.kinds, now.purse, now.till, price);
+        fewest.laySettling(now);
+        return fewest.read(price, settled);
     }
 
     // ---- days ----
@@ -581,7 +584,7 @@ public final class TillFloat {
         if (what == 1) {
             return now.pricesOf(day);
         }
-        life.liveFrom(now, day, now.till);
+        life.liveFrom(now.till, now, day);
         switch (what) {
             case 2: return life.shorts;
             case 3: return life.pieces;
@@ -596,16 +599,16 @@ public final class TillFloat {
                 return k;
             }
         }
-        return ONWARD;
+        return SECOND;
     }
 
     public int behind(int day, int times, int kind) {
         if (!hasDay(day) || times < 1 || times > 20 || !hasKind(kind)) {
             return NONE;
         }
-        life.liveFrom(now, day, now.till);
+        life.liveFrom(now.till, now, day);
         for (int i = 1; i < times; i++) {
-            life.liveOn(now, day);
+            life.liveFrom(life.till, now, day);
         }
         return life.till[kind];
     }
@@ -614,11 +617,11 @@ public final class TillFloat {
         if (!hasDay(day)) {
             return NONE;
         }
-        life.liveFrom(now, day, now.till);
+        life.liveFrom(now.till, now, day);
         int times = 0;
         while (times < MOST_LIVES && life.shorts == 0) {
             times++;
-            life.liveOn(now, day);
+            life.liveFrom(life.till, now, day);
         }
         return times;
     }
@@ -627,11 +630,11 @@ public final class TillFloat {
         if (what < 0 || what > 2) {
             return NONE;
         }
-        int which = ONWARD;
-        int shorts = ONWARD;
-        int pieces = ONWARD;
+        int which = SECOND;
+        int shorts = SECOND;
+        int pieces = SECOND;
         for (int d = 0; d < now.days; d++) {
-            life.liveFrom(now, d, now.till);
+            life.liveFrom(now.till, now, d);
             if (life.shorts > shorts || life.shorts == shorts && life.pieces > pieces) {
                 which = d;
                 shorts = life.shorts;
@@ -645,7 +648,7 @@ public final class TillFloat {
         if (!hasDay(day)) {
             return NONE;
         }
-        life.liveFrom(now, day, now.till);
+        life.liveFrom(now.till, now, day);
         return bitsOfQuotient(life.pieces, now.salesOf(day) - life.shorts);
     }
 
@@ -653,7 +656,7 @@ public final class TillFloat {
         if (!hasDay(day) || !hasKind(kind)) {
             return NONE;
         }
-        life.liveFrom(now, day, now.till);
+        life.liveFrom(now.till, now, day);
         return life.least[kind];
     }
 
@@ -661,7 +664,7 @@ public final class TillFloat {
         if (!hasDay(day) || what < 0 || what > 1) {
             return NONE;
         }
-        life.liveFrom(now, day, now.till);
+        life.liveFrom(now.till, now, day);
         return what == 0 ? life.goneSale : life.goneKind;
     }
 
@@ -669,38 +672,32 @@ public final class TillFloat {
         if (!hasDay(day) || !isKindOrNone(kind)) {
             return NONE;
         }
-        trimAll(day);
+        life.liveFrom(now.till, now, day);
+        int allowed = life.shorts;
+        copyRow(now.till, tried);
+        noteSlack();
+        for (int k = now.kinds - 1; k >= 0; k--) {
+            tried[k] -= slack[k];
+            slack[k] = 0;
+            for (int i = 0; i < FULL && tried[k] > 0; i++) {
+                tried[k]--;
+                life.liveFrom(tried, now, day);
+                if (life.shorts > allowed) {
+                    tried[k]++;
+                    break;
+                }
+                noteSlack();
+                tried[k] -= slack[k];
+                slack[k] = 0;
+            }
+        }
         return kind == NONE ? now.worthOf(tried) : tried[kind];
     }
 
-    private void trimAll(int day) {
-        copyRow(now.till, tried);
-        life.liveFrom(now, day, tried);
-        int allowed = life.shorts;
-        noteSlack();
-        for (int k = now.kinds - 1; k >= 0; k--) {
-            trimKind(day, k, allowed);
-        }
-    }
-
-    private void trimKind(int day, int kind, int allowed) {
-        for (int i = 0; i < FULL; i++) {
-            tried[kind] -= slack[kind];
-            slack[kind] = 0;
-            if (tried[kind] < 1) {
-                return;
-            }
-            tried[kind]--;
-            life.liveFrom(now, day, tried);
-            if (life.shorts > allowed) {
-                tried[kind]++;
-                return;
-            }
-            noteSlack();
-        }
-    }
-
-    /** What the day never touched can go at once: it would be lived just so without. Not so if a till too full made a sale short. */
+    /**
+     * What a day never touched can go at once, for the day would be lived just so without it. That does not hold where
+     * a sale was short because the till was too full.
+     */
     private void noteSlack() {
         for (int k = 0; k < now.kinds; k++) {
             slack[k] = life.overfull ? 0 : life.least[k];
@@ -720,38 +717,35 @@ public final class TillFloat {
         if (!hasDay(day) || !isKindOrNone(kind)) {
             return NONE;
         }
-        for (int number = 0; number <= MOST_NEEDED; number++) {
-            if (findBags(day, number)) {
+        int number = 0;
+        startBags(0);
+        for (int i = 0; i < 1000000 && number <= MOST_NEEDED; i++) {
+            if (hasRoomForBags() && life.isLivedWhole(tried, now, day)) {
                 return kind == NONE ? number : bagged[kind];
             }
+            if (!nextBags()) {
+                number++;
+                startBags(number);
+            }
         }
-        return ONWARD;
+        return SECOND;
     }
 
-    /** Tries the rows of so many bags, the least first. */
-    private boolean findBags(int day, int number) {
+    /** The least row of so many bags: all of the last kind. */
+    private void startBags(int number) {
         for (int k = 0; k < MOST_KINDS; k++) {
             bagged[k] = k == now.kinds - 1 ? number : 0;
         }
-        for (int i = 0; i < 1000000; i++) {
-            if (bagsDo(day)) {
-                return true;
-            }
-            if (!nextBags()) {
-                return false;
-            }
-        }
-        return false;
     }
 
-    private boolean bagsDo(int day) {
+    private boolean hasRoomForBags() {
         for (int k = 0; k < now.kinds; k++) {
             tried[k] = now.till[k] + bagged[k] * now.bagSizes[k];
             if (tried[k] >= FULL) {
                 return false;
             }
         }
-        return life.isLivedWhole(now, day, tried);
+        return true;
     }
 
     /** The next greater row of as many bags: the last kind that has some hands one to the kind ahead, the rest to the last. */
@@ -997,7 +991,7 @@ public final class TillFloat {
         private static final int BEYOND = 10000;
 
         final State draft = new State();
-        private int[] text = new int[0];
+        private final int[] tape;
         private int length;
         private int at;
         private int began;
@@ -1005,16 +999,20 @@ public final class TillFloat {
         private int toldRows;
         private int fault;
 
-        /** The text's fault, or 0. */
-        int read(int[] tape, int taped) {
-            text = tape;
+        Reader(int[] tape) {
+            this.tape = tape;
+        }
+
+        /** The fault of what is on the tape, or 0. */
+        int read(int taped) {
             length = Math.min(taped, tape.length);
             at = 0;
             toldRows = 0;
             fault = 0;
             draft.clear();
-            if (readKinds()) {
-                readParts();
+            boolean goesOn = readKinds();
+            for (int i = 0; i <= TAPE_SIZE && goesOn && next() != END; i++) {
+                goesOn = readPart();
             }
             return fault;
         }
@@ -1025,15 +1023,15 @@ public final class TillFloat {
         }
 
         private int byteAt(int place) {
-            return place >= 0 && place < length && place < text.length ? text[place] : END;
+            return place >= 0 && place < length ? tape[place] : END;
         }
 
         /** The byte behind the blanks. */
         private int next() {
-            while (at < length && byteAt(at) == ' ') {
+            while (at < length && tape[at] == ' ') {
                 at++;
             }
-            return byteAt(at);
+            return at < length ? tape[at] : END;
         }
 
         private static boolean isDigit(int b) {
@@ -1049,7 +1047,7 @@ public final class TillFloat {
                 return wrong(at, ODD);
             }
             began = at;
-            while (at < length && isLetter(byteAt(at))) {
+            while (at < length && isLetter(tape[at])) {
                 at++;
             }
             return true;
@@ -1073,8 +1071,8 @@ public final class TillFloat {
             }
             began = at;
             number = 0;
-            while (at < length && isDigit(byteAt(at))) {
-                number = Math.min(number * 10 + byteAt(at) - '0', BEYOND);
+            while (at < length && isDigit(tape[at])) {
+                number = Math.min(number * 10 + tape[at] - '0', BEYOND);
                 at++;
             }
             return true;
@@ -1112,24 +1110,11 @@ public final class TillFloat {
             return true;
         }
 
-        private boolean readParts() {
-            for (int i = 0; i <= TAPE_SIZE; i++) {
-                int b = next();
-                if (b == END) {
-                    return true;
-                }
-                if (b != ';') {
-                    return wrong(at, ODD);
-                }
-                at++;
-                if (!readPart()) {
-                    return false;
-                }
-            }
-            return true;
-        }
-
         private boolean readPart() {
+            if (next() != ';') {
+                return wrong(at, ODD);
+            }
+            at++;
             if (!readWord()) {
                 return false;
             }
@@ -1265,13 +1250,10 @@ public final class TillFloat {
         }
 
         private void writeNumber(int number) {
-            int unit = 1;
-            for (int i = 0; i < 8 && unit <= number / 10; i++) {
-                unit *= 10;
-            }
-            while (unit > 0) {
-                writeByte('0' + number / unit % 10);
-                unit /= 10;
+            for (int unit = 1000; unit > 0; unit /= 10) {
+                if (number >= unit || unit == 1) {
+                    writeByte('0' + number / unit % 10);
+                }
             }
         }
 
@@ -1306,32 +1288,69 @@ public final class TillFloat {
         private static final int NEVER = 1000000;
         private static final int WIDTH = 2 * MOST_SETTLED + 1;
 
-        final int[] row = new int[MOST_KINDS];
+        private final int[] values = new int[MOST_KINDS];
+        private final int[] given = new int[MOST_KINDS];
+        private final int[] returned = new int[MOST_KINDS];
+        private int kinds;
+        private int origin;
+        private int top = NONE;
         private final int[][] least = new int[MOST_KINDS + 1][WIDTH];
         private final int[] lows = new int[MOST_KINDS + 1];
         private final int[] highs = new int[MOST_KINDS + 1];
         private final int[] queueStep = new int[WIDTH];
         private final int[] queueCost = new int[WIDTH];
-        private int origin;
 
-        /** Fills the table for all sums from low (0 or less) to high (0 or more). */
-        void lay(int[] values, int kinds, int[] given, int[] returned, int low, int high) {
-            if (low > 0 || high < 0 || high - low >= WIDTH) {
+        /** Makes a table for all amounts up to high, by the first so many kinds of a stock. */
+        void layChange(State s, int[] stock, int byKinds, int high) {
+            if (byKinds < 0 || byKinds > MOST_KINDS || high < 0 || high > MOST_AMOUNT) {
                 return;
             }
-            origin = -low;
+            boolean same = origin == 0 && top >= high && kinds == byKinds;
+            for (int k = 0; k < MOST_KINDS; k++) {
+                int most = k < byKinds ? stock[k] : 0;
+                same &= values[k] == s.values[k] && given[k] == most;
+                values[k] = s.values[k];
+                given[k] = most;
+                returned[k] = 0;
+            }
+            if (!same) {
+                origin = 0;
+                top = high;
+                kinds = byKinds;
+                layLevels();
+            }
+        }
+
+        /** Makes a table for all that may be settled. */
+        void laySettling(State s) {
+            boolean same = origin == MOST_SETTLED && kinds == s.kinds;
+            for (int k = 0; k < MOST_KINDS; k++) {
+                same &= values[k] == s.values[k] && given[k] == s.purse[k] && returned[k] == s.till[k];
+                values[k] = s.values[k];
+                given[k] = s.purse[k];
+                returned[k] = s.till[k];
+            }
+            if (!same) {
+                origin = MOST_SETTLED;
+                top = MOST_SETTLED;
+                kinds = s.kinds;
+                layLevels();
+            }
+        }
+
+        private void layLevels() {
             lows[0] = 0;
             highs[0] = 0;
             least[0][origin] = 0;
             for (int k = 0; k < kinds && k < MOST_KINDS; k++) {
-                lows[k + 1] = Math.max(low, lows[k] - returned[k] * values[k]);
-                highs[k + 1] = Math.min(high, highs[k] + given[k] * values[k]);
+                lows[k + 1] = Math.max(-origin, lows[k] - returned[k] * values[k]);
+                highs[k + 1] = Math.min(top, highs[k] + given[k] * values[k]);
                 copyLevel(k);
                 if (given[k] > 0) {
-                    spread(k, values[k], given[k], 1);
+                    spread(k, given[k], 1);
                 }
                 if (returned[k] > 0) {
-                    spread(k, values[k], returned[k], -1);
+                    spread(k, returned[k], -1);
                 }
             }
         }
@@ -1339,10 +1358,11 @@ public final class TillFloat {
         private void copyLevel(int level) {
             int[] from = least[level];
             int[] to = least[level + 1];
-            int low = lows[level];
-            int high = highs[level];
-            for (int sum = lows[level + 1]; sum <= highs[level + 1]; sum++) {
-                to[sum + origin] = sum >= low && sum <= high ? from[sum + origin] : NEVER;
+            int low = lows[level] + origin;
+            int high = highs[level] + origin;
+            int last = highs[level + 1] + origin;
+            for (int i = lows[level + 1] + origin; i <= last; i++) {
+                to[i] = i >= low && i <= high ? from[i] : NEVER;
             }
         }
 
@@ -1350,7 +1370,8 @@ public final class TillFloat {
          * Lets up to so many pieces of the kind go one way. The sums that differ by whole pieces are walked in a line;
          * the queue holds those of the last steps that may yet be the best to start from.
          */
-        private void spread(int level, int value, int most, int way) {
+        private void spread(int level, int most, int way) {
+            int value = values[level];
             if (value < 1) {
                 return;
             }
@@ -1386,8 +1407,8 @@ public final class TillFloat {
             }
         }
 
-        /** How many pieces a sum takes, by the first so many kinds; NONE if it can't be. */
-        int piecesFor(int kinds, int sum) {
+        /** How many pieces a sum takes by all kinds of the table; NONE if it can't be. */
+        int piecesFor(int sum) {
             int pieces = costOf(kinds, sum);
             return pieces < NEVER ? pieces : NONE;
         }
@@ -1399,24 +1420,31 @@ public final class TillFloat {
             return least[level][sum + origin];
         }
 
-        /** The row of a sum, with the most of the greatest kind, then of the next one, and so on; how many pieces. */
-        int read(int[] values, int kinds, int[] given, int[] returned, int sum) {
-            int pieces = piecesFor(kinds, sum);
+        /** Writes the row of a sum: the most of the greatest kind, then of the next one, and so on; how many pieces. */
+        int read(int sum, int[] row) {
+            int pieces = piecesFor(sum);
             if (pieces < 0) {
                 return NONE;
             }
             int left = sum;
             int due = pieces;
-            for (int k = kinds - 1; k >= 0; k--) {
-                int some = given[k];
-                while (some > -returned[k] && costOf(k, left - some * values[k]) != due - Math.abs(some)) {
-                    some--;
+            for (int k = MOST_KINDS - 1; k >= 0; k--) {
+                row[k] = 0;
+                if (k < kinds) {
+                    row[k] = mostOf(k, left, due);
+                    left -= row[k] * values[k];
+                    due -= Math.abs(row[k]);
                 }
-                row[k] = some;
-                left -= some * values[k];
-                due -= Math.abs(some);
             }
             return pieces;
+        }
+
+        private int mostOf(int kind, int sum, int due) {
+            int some = given[kind];
+            while (some > -returned[kind] && costOf(kind, sum - some * values[kind]) != due - Math.abs(some)) {
+                some--;
+            }
+            return some;
         }
     }
 
@@ -1424,11 +1452,11 @@ public final class TillFloat {
     private static final class Changer {
         final int[] row = new int[MOST_KINDS];
         private final Fewest fewest;
-        private final int[] nothing = new int[MOST_KINDS];
         private final int[] plentyValues = new int[MOST_KINDS];
         private final int[] plentyPieces = new int[MOST_AMOUNT + 1];
         private final int[] plentyKind = new int[MOST_AMOUNT + 1];
-        private int plentyKinds = NONE;
+        private int plentyKinds;
+        private int plentyTop;
 
         Changer(Fewest fewest) {
             this.fewest = fewest;
@@ -1439,25 +1467,15 @@ public final class TillFloat {
             if (amount < 0 || amount > MOST_AMOUNT || s.worthOf(stock) < amount) {
                 return NONE;
             }
-            preparePlenty(s);
+            preparePlenty(s, amount);
             if (plentyKind[amount] < 0) {
                 return NONE;
             }
-            return takeAsFromPlenty(s, stock, amount) ? plentyPieces[amount] : takeByTable(s, stock, s.kinds, amount);
-        }
-
-        /** The same by the first so many kinds alone. */
-        int takeByTable(State s, int[] stock, int kinds, int amount) {
-            fewest.lay(s.values, kinds, stock, nothing, 0, amount);
-            int pieces = fewest.read(s.values, kinds, stock, nothing, amount);
-            if (pieces >= 0) {
-                copyRow(fewest.row, row);
+            if (takeAsFromPlenty(s, stock, amount)) {
+                return plentyPieces[amount];
             }
-            return pieces;
-        }
-
-        void layAll(State s, int[] stock) {
-            fewest.lay(s.values, s.kinds, stock, nothing, 0, MOST_AMOUNT);
+            fewest.layChange(s, stock, s.kinds, amount);
+            return fewest.read(amount, row);
         }
 
         /** The change from no end of pieces is the change wherever the stock has it, which spares the table. */
@@ -1477,19 +1495,19 @@ public final class TillFloat {
             return left == 0;
         }
 
-        private void preparePlenty(State s) {
-            if (isPlentyFor(s)) {
-                return;
+        private void preparePlenty(State s, int amount) {
+            if (!isPlentyFor(s)) {
+                plentyKinds = s.kinds;
+                plentyTop = 0;
+                copyRow(s.values, plentyValues);
             }
-            plentyKinds = s.kinds;
-            copyRow(s.values, plentyValues);
-            plentyKind[0] = 0;
-            for (int a = 1; a <= MOST_AMOUNT; a++) {
+            for (int a = plentyTop + 1; a <= amount; a++) {
                 plentyKind[a] = NONE;
                 for (int k = 0; k < s.kinds; k++) {
                     offerKind(a, k, s.values[k]);
                 }
             }
+            plentyTop = Math.max(plentyTop, amount);
         }
 
         private void offerKind(int amount, int kind, int value) {
@@ -1533,22 +1551,18 @@ public final class TillFloat {
             this.changer = changer;
         }
 
-        void liveFrom(State s, int day, int[] row) {
-            copyRow(row, till);
-            liveOn(s, day);
-        }
-
-        void liveOn(State s, int day) {
-            begin();
+        /** Lives a day with such a row in the till, and leaves in the till what is there behind. */
+        void liveFrom(int[] row, State s, int day) {
+            begin(row);
             int sales = s.salesOf(day);
             for (int i = 0; i < sales; i++) {
                 meetSale(s, s.firstSale(day), i);
             }
         }
 
-        boolean isLivedWhole(State s, int day, int[] row) {
-            copyRow(row, till);
-            begin();
+        /** Lives a day as far as its first short sale; whether there is none. */
+        boolean isLivedWhole(int[] row, State s, int day) {
+            begin(row);
             int sales = s.salesOf(day);
             for (int i = 0; i < sales && shorts == 0; i++) {
                 meetSale(s, s.firstSale(day), i);
@@ -1556,19 +1570,23 @@ public final class TillFloat {
             return shorts == 0;
         }
 
-        private void begin() {
-            copyRow(till, least);
+        private void begin(int[] row) {
+            copyRow(row, till);
+            copyRow(row, least);
             shorts = 0;
             pieces = 0;
-            firstShort = ONWARD;
-            goneSale = ONWARD;
-            goneKind = ONWARD;
+            firstShort = SECOND;
+            goneSale = SECOND;
+            goneKind = SECOND;
             overfull = false;
         }
 
         private void meetSale(State s, int first, int k) {
-            int some = changeOf(s, first + k);
-            if (some < 0) {
+            for (int i = 0; i < s.kinds; i++) {
+                stock[i] = till[i] + s.givenOf(first + k, i);
+            }
+            int some = changer.take(s, stock, s.givenWorth(first + k) - s.priceOf(first + k));
+            if (some < 0 || !leavesRoom(s)) {
                 firstShort = shorts == 0 ? k : firstShort;
                 shorts++;
                 return;
@@ -1584,22 +1602,15 @@ public final class TillFloat {
             }
         }
 
-        /** Leaves in the stock what the till has behind a sale: how many pieces of change; NONE if it is short. */
-        private int changeOf(State s, int sale) {
-            for (int k = 0; k < s.kinds; k++) {
-                stock[k] = till[k] + s.givenOf(sale, k);
-            }
-            int some = changer.take(s, stock, s.givenWorth(sale) - s.priceOf(sale));
-            if (some < 0) {
-                return NONE;
-            }
+        /** Takes the change out of the stock. */
+        private boolean leavesRoom(State s) {
             boolean full = false;
             for (int k = 0; k < s.kinds; k++) {
                 stock[k] -= changer.row[k];
                 full |= stock[k] >= FULL;
             }
             overfull |= full;
-            return full ? NONE : some;
+            return !full;
         }
     }
 
@@ -1615,7 +1626,7 @@ public final class TillFloat {
             bits[0] = 1;
             for (int k = 0; k < s.kinds; k++) {
                 int left = stock[k];
-                for (int some = 1; left > 0; some *= 2) {
+                for (int some = 1; some <= FULL && left > 0; some *= 2) {
                     int taken = Math.min(some, left);
                     addShifted(taken * s.values[k]);
                     left -= taken;
@@ -1648,7 +1659,7 @@ public final class TillFloat {
                     return a;
                 }
             }
-            return ONWARD;
+            return SECOND;
         }
 
         int missing() {
