@@ -39,7 +39,7 @@ public final class TillFloat {
     private final long[] rows = new long[MOST_AMOUNT + 1];
     private final int[] tried = new int[MOST_KINDS];
     private final int[] settled = new int[MOST_KINDS];
-    private final int[] slack = new int[MOST_KINDS];
+    private final int[] spare = new int[MOST_KINDS];
     private final int[] bagged = new int[MOST_KINDS];
     private final Scribe scribe = new Scribe();
 
@@ -675,10 +675,9 @@ public final class TillFloat {
         life.liveFrom(now.till, now, day);
         int allowed = life.shorts;
         copyRow(now.till, tried);
-        noteSlack();
+        copyRow(life.spare, spare);
         for (int k = now.kinds - 1; k >= 0; k--) {
-            tried[k] -= slack[k];
-            slack[k] = 0;
+            takeSpare(k);
             for (int i = 0; i < FULL && tried[k] > 0; i++) {
                 tried[k]--;
                 life.liveFrom(tried, now, day);
@@ -686,22 +685,17 @@ public final class TillFloat {
                     tried[k]++;
                     break;
                 }
-                noteSlack();
-                tried[k] -= slack[k];
-                slack[k] = 0;
+                copyRow(life.spare, spare);
+                takeSpare(k);
             }
         }
         return kind == NONE ? now.worthOf(tried) : tried[kind];
     }
 
-    /**
-     * What a day never touched can go at once, for the day would be lived just so without it. That does not hold where
-     * a sale was short because the till was too full.
-     */
-    private void noteSlack() {
-        for (int k = 0; k < now.kinds; k++) {
-            slack[k] = life.overfull ? 0 : life.least[k];
-        }
+    /** Piece by piece would come to the same, but the day would have to be lived for each. */
+    private void takeSpare(int kind) {
+        tried[kind] -= spare[kind];
+        spare[kind] = 0;
     }
 
     public int bags(int kind) {
@@ -1538,12 +1532,13 @@ public final class TillFloat {
     private static final class Life {
         final int[] till = new int[MOST_KINDS];
         final int[] least = new int[MOST_KINDS];
+        /** How many pieces fewer of a kind there could be at first, and the day would be lived just so. */
+        final int[] spare = new int[MOST_KINDS];
         int shorts;
         int pieces;
         int firstShort;
         int goneSale;
         int goneKind;
-        boolean overfull;
         private final int[] stock = new int[MOST_KINDS];
         private final Changer changer;
 
@@ -1573,12 +1568,12 @@ public final class TillFloat {
         private void begin(int[] row) {
             copyRow(row, till);
             copyRow(row, least);
+            copyRow(row, spare);
             shorts = 0;
             pieces = 0;
             firstShort = SECOND;
             goneSale = SECOND;
             goneKind = SECOND;
-            overfull = false;
         }
 
         private void meetSale(State s, int first, int k) {
@@ -1586,7 +1581,7 @@ public final class TillFloat {
                 stock[i] = till[i] + s.givenOf(first + k, i);
             }
             int some = changer.take(s, stock, s.givenWorth(first + k) - s.priceOf(first + k));
-            if (some < 0 || !leavesRoom(s)) {
+            if (some < 0 || takesTooMuch(s)) {
                 firstShort = shorts == 0 ? k : firstShort;
                 shorts++;
                 return;
@@ -1602,15 +1597,18 @@ public final class TillFloat {
             }
         }
 
-        /** Takes the change out of the stock. */
-        private boolean leavesRoom(State s) {
-            boolean full = false;
+        /** Takes the change out of the stock: whether that leaves too many of some kind. */
+        private boolean takesTooMuch(State s) {
+            int full = 0;
             for (int k = 0; k < s.kinds; k++) {
                 stock[k] -= changer.row[k];
-                full |= stock[k] >= FULL;
+                full += stock[k] >= FULL ? 1 : 0;
             }
-            overfull |= full;
-            return !full;
+            for (int k = 0; k < s.kinds; k++) {
+                boolean isCause = full == 1 && stock[k] >= FULL;
+                spare[k] = Math.min(spare[k], isCause ? stock[k] - FULL : stock[k]);
+            }
+            return full > 0;
         }
     }
 
