@@ -24,17 +24,17 @@ public final class TillFloat {
     private static final int UNASKED = -1000;
 
     private final State now = new State();
-    private final int[] tape = new int[TAPE_SIZE];
+    private final Reader reader = new Reader();
+    private final int[] tape = reader.tape;
     private int taped;
-    private final Reader reader = new Reader(tape);
     private final State[] past = new State[MOST_ACTS];
     private int pastNext;
     private int acts;
     private final State[] shelved = new State[SHELVES];
     private int keptBits;
-    private final Fewest fewest = new Fewest();
-    private final Changer changer = new Changer(fewest);
-    private final Life life = new Life(changer);
+    private final Life life = new Life();
+    private final Changer changer = life.changer;
+    private final Fewest fewest = changer.fewest;
     private final Reach reach = new Reach();
     private final long[] rows = new long[MOST_AMOUNT + 1];
     private final int[] tried = new int[MOST_KINDS];
@@ -985,17 +985,13 @@ public final class TillFloat {
         private static final int BEYOND = 10000;
 
         final State draft = new State();
-        private final int[] tape;
+        final int[] tape = new int[TAPE_SIZE];
         private int length;
         private int at;
         private int began;
         private int number;
         private int toldRows;
         private int fault;
-
-        Reader(int[] tape) {
-            this.tape = tape;
-        }
 
         /** The fault of what is on the tape, or 0. */
         int read(int taped) {
@@ -1445,16 +1441,12 @@ public final class TillFloat {
     /** Change for one amount after another. */
     private static final class Changer {
         final int[] row = new int[MOST_KINDS];
-        private final Fewest fewest;
+        final Fewest fewest = new Fewest();
         private final int[] plentyValues = new int[MOST_KINDS];
         private final int[] plentyPieces = new int[MOST_AMOUNT + 1];
         private final int[] plentyKind = new int[MOST_AMOUNT + 1];
         private int plentyKinds;
         private int plentyTop;
-
-        Changer(Fewest fewest) {
-            this.fewest = fewest;
-        }
 
         /** How many pieces the change for an amount has, from a stock; NONE if there is none. The row is the change. */
         int take(State s, int[] stock, int amount) {
@@ -1539,12 +1531,8 @@ public final class TillFloat {
         int firstShort;
         int goneSale;
         int goneKind;
+        final Changer changer = new Changer();
         private final int[] stock = new int[MOST_KINDS];
-        private final Changer changer;
-
-        Life(Changer changer) {
-            this.changer = changer;
-        }
 
         /** Lives a day with such a row in the till, and leaves in the till what is there behind. */
         void liveFrom(int[] row, State s, int day) {

@@ -213,6 +213,8 @@ public final class PromisesTest {
         fault("kinds 1;kinds 2", 8, 1);
         fault("kinds 1;days", 8, 1);
         fault("kinds 1;da", 8, 1);
+        fault("kinds 1;dayz", 8, 1);
+        fault("zkinds 1", 0, 1);
         fault("kinds 1;Day", 8, 1);
         fault("kinds 1;day 1", 12, 1);
     }
@@ -776,6 +778,11 @@ public final class PromisesTest {
         due("both are short", 2, x.day(0, 2));
         due("no fives", 0, x.trim(0, 1));
         due("no ones", 0, x.trim(0, 0));
+        // with 98 fives the first sale is not short any more, but its four ones are lacking in the others
+        x = Texts.till("kinds 1 5 20;float 4 99 0;day;sale 1:5;sale 18:20;sale 18:20");
+        due("the first is short", 0, x.day(0, 4));
+        due("all fives", 99, x.trim(0, 1));
+        due("all ones", 4, x.trim(0, 0));
     }
 
     // 28

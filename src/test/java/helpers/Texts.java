@@ -96,8 +96,9 @@ final class Texts {
 
     private static void row(Random r, StringBuilder t, String word, int kinds, int least, int most) {
         t.append(blanks(r)).append(';').append(blanks(r)).append(word);
+        boolean full = most == 100 && r.nextInt(3) == 0;
         for (int k = 0; k < kinds; k++) {
-            t.append(' ').append(blanks(r)).append(Math.min(99, least + r.nextInt(most)));
+            t.append(' ').append(blanks(r)).append(full && r.nextInt(3) > 0 ? 97 + r.nextInt(3) : Math.min(99, least + r.nextInt(most)));
         }
     }
 
