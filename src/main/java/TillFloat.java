@@ -39,7 +39,6 @@ public final class TillFloat {
     private final long[] rows = new long[MOST_AMOUNT + 1];
     private final int[] tried = new int[MOST_KINDS];
     private final int[] settled = new int[MOST_KINDS];
-    private final int[] spare = new int[MOST_KINDS];
     private final int[] bagged = new int[MOST_KINDS];
     private final Scribe scribe = new Scribe();
 
@@ -668,6 +667,11 @@ public final class TillFloat {
         return what == 0 ? life.goneSale : life.goneKind;
     }
 
+    /**
+     * Spare pieces go at once: piece by piece would come to the same. What is spare of a kind holds only for the row
+     * the day was lived from, as with fewer of another kind a sale may be short for this one alone; so the day is lived
+     * anew for each kind and behind each step.
+     */
     public int trim(int day, int kind) {
         if (!hasDay(day) || !isKindOrNone(kind)) {
             return NONE;
@@ -675,27 +679,20 @@ public final class TillFloat {
         life.liveFrom(now.till, now, day);
         int allowed = life.shorts;
         copyRow(now.till, tried);
-        copyRow(life.spare, spare);
         for (int k = now.kinds - 1; k >= 0; k--) {
-            takeSpare(k);
-            for (int i = 0; i < FULL && tried[k] > 0; i++) {
-                tried[k]--;
-                life.liveFrom(tried, now, day);
-                if (life.shorts > allowed) {
-                    tried[k]++;
-                    break;
+            life.liveFrom(tried, now, day);
+            for (int i = 0; i < FULL && life.shorts <= allowed && tried[k] > 0; i++) {
+                tried[k] -= life.spare[k];
+                if (tried[k] > 0) {
+                    tried[k]--;
+                    life.liveFrom(tried, now, day);
                 }
-                copyRow(life.spare, spare);
-                takeSpare(k);
+            }
+            if (life.shorts > allowed) {
+                tried[k]++;
             }
         }
         return kind == NONE ? now.worthOf(tried) : tried[kind];
-    }
-
-    /** Piece by piece would come to the same, but the day would have to be lived for each. */
-    private void takeSpare(int kind) {
-        tried[kind] -= spare[kind];
-        spare[kind] = 0;
     }
 
     public int bags(int kind) {
@@ -1524,7 +1521,7 @@ public final class TillFloat {
     private static final class Life {
         final int[] till = new int[MOST_KINDS];
         final int[] least = new int[MOST_KINDS];
-        /** How many pieces fewer of a kind there could be at first, and the day would be lived just so. */
+        /** How many pieces fewer of one kind (the others as they are) there could be, and the day would be lived just so. */
         final int[] spare = new int[MOST_KINDS];
         int shorts;
         int pieces;

@@ -22,6 +22,7 @@ public final class ModelTest {
         CALLS.sort(Comparator.comparing(Method::getName));
         for (int i = 0; i < runs && wrong < 20; i++) {
             run(from + i);
+            runFull(from + i);
         }
         System.out.println(wrong == 0 ? "model: " + asked + " answers as due" : "model: " + wrong + " answers not as due");
         if (wrong != 0) {
@@ -61,6 +62,25 @@ public final class ModelTest {
         }
         for (int k = -1; k <= y.text().length(); k++) {
             check(seed, told, "letter(" + k + ")", x.letter(k), y.letter(k));
+        }
+    }
+
+    /** What is asked of days in tills so full that sales are short for it, and what trims and lives make of them. */
+    private static void runFull(long seed) {
+        Random r = new Random(seed * 31 + 7);
+        TillFloat x = new TillFloat();
+        PlainTill y = new PlainTill();
+        List<String> told = new ArrayList<>();
+        for (int i = 0; i < 10; i++) {
+            Texts.feed(x, y, Texts.drawFull(r), told);
+            check(seed, told, "tell()", x.tell(), y.tell());
+            int kind = r.nextInt(y.s.kinds());
+            check(seed, told, "trim(0, " + kind + ")", x.trim(0, kind), y.trim(0, kind));
+            check(seed, told, "trim(0, -1)", x.trim(0, -1), y.trim(0, -1));
+            check(seed, told, "flow(0, " + kind + ")", x.flow(0, kind), y.flow(0, kind));
+            check(seed, told, "behind(0, 3, " + kind + ")", x.behind(0, 3, kind), y.behind(0, 3, kind));
+            check(seed, told, "lasts(0)", x.lasts(0), y.lasts(0));
+            check(seed, told, "live(0)", x.live(0), y.live(0));
         }
     }
 

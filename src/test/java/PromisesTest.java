@@ -783,6 +783,13 @@ public final class PromisesTest {
         due("the first is short", 0, x.day(0, 4));
         due("all fives", 99, x.trim(0, 1));
         due("all ones", 4, x.trim(0, 0));
+        // the first sale is short for two kinds: without the tens it is short for the fives alone, which stay then
+        x = Texts.till("kinds 1 5 10 20;float 6 99 99 0;day;sale 11:5 10;sale 17:20;sale 17:20");
+        due("one is short", 1, x.day(0, 2));
+        due("no tens", 0, x.trim(0, 2));
+        due("all fives", 99, x.trim(0, 1));
+        due("all ones", 6, x.trim(0, 0));
+        due("worth", 501, x.trim(0, NONE));
     }
 
     // 28

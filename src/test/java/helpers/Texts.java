@@ -114,6 +114,42 @@ final class Texts {
         t.append(";sale ").append(1 + r.nextInt(Math.min(1000, sum))).append(blanks(r)).append(':').append(blanks(r)).append(given);
     }
 
+    /**
+     * A till in which some kinds are so full that sales are short for it, several kinds at once too, and the least one
+     * so low that a sale that is no longer short may leave others short.
+     */
+    static String drawFull(Random r) {
+        int[] coins = {1, 5, 10, 20, 50};
+        int kinds = 3 + r.nextInt(3);
+        int full = r.nextInt(1 << kinds) & ~1;
+        StringBuilder t = new StringBuilder("kinds");
+        for (int k = 0; k < kinds; k++) {
+            t.append(' ').append(coins[k]);
+        }
+        t.append(";float");
+        for (int k = 0; k < kinds; k++) {
+            t.append(' ').append((full >> k & 1) == 1 ? 99 - r.nextInt(4) / 2 : k == 0 ? 3 + r.nextInt(8) : r.nextInt(4) / 3);
+        }
+        t.append(";day");
+        int sales = 2 + r.nextInt(5);
+        for (int i = 0; i < sales; i++) {
+            int given = r.nextInt(3) == 0 ? r.nextInt(1 << kinds) : r.nextInt(3) == 0 ? full : ~full;
+            int one = 1 + r.nextInt(kinds - 1);
+            int sum = 0;
+            StringBuilder pieces = new StringBuilder();
+            for (int k = 1; k < kinds; k++) {
+                if ((given >> k & 1) == 1 && (given != ~full || k == one)) {
+                    sum += coins[k];
+                    pieces.append(' ').append(coins[k]);
+                }
+            }
+            if (sum > 0) {
+                t.append(";sale ").append(sum - r.nextInt(5)).append(':').append(pieces);
+            }
+        }
+        return t.toString();
+    }
+
     private static String blanks(Random r) {
         return r.nextInt(12) == 0 ? " ".repeat(r.nextInt(3)) : "";
     }
